@@ -187,6 +187,10 @@ public final class DoneTest {
         DUE.is("undoable", x.count(5), 1);
         DUE.is("undo", x.undo(), 0);
         DUE.is("known", x.at(1, 4), 0);
+        RiddlePrison full = Due.prison("01+1,01+1,01+1,01+1,01+1,01+1,01+1,01+1,01+1,01+1;p0+");
+        full.study(0);
+        DUE.is("full", full.door(0, 1, 0, 1), RiddlePrison.FULL);
+        DUE.is("undoable still", full.count(5), 1);
     }
 
     private static void seeds() {

@@ -69,6 +69,10 @@ public final class TextTest {
         DUE.is("no men", x.count(1), 0);
         Due.read(x, "01+1;c9+");
         DUE.is("a chaplain", x.at(0, 0), 4);
+        Due.read(x, "01+19;p9+@7");
+        DUE.is("what stood behind is not read", Due.read(x, "01+1"), 1);
+        DUE.is("nor its digit", x.of(0, 3), 1);
+        DUE.is("nor its men", x.count(1), 0);
     }
 
     private static void faultChangesNothing() {
