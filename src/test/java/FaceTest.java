@@ -1,3 +1,4 @@
+import java.lang.reflect.Array;
 import java.lang.reflect.Constructor;
 import java.lang.reflect.Field;
 import java.lang.reflect.Method;
@@ -7,7 +8,9 @@ import java.nio.file.Files;
 import java.nio.file.Path;
 import java.util.ArrayList;
 import java.util.Arrays;
+import java.util.IdentityHashMap;
 import java.util.List;
+import java.util.Map;
 import java.util.Set;
 import java.util.TreeSet;
 import java.util.regex.Pattern;
@@ -39,6 +42,7 @@ public final class FaceTest {
         face();
         classes();
         text();
+        room();
         DUE.end();
     }
 
@@ -106,6 +110,35 @@ public final class FaceTest {
         }
     }
 
+    /** What a new object takes of the room that all calls of a run share. */
+    private static void room() throws Exception {
+        Map<Object, Boolean> seen = new IdentityHashMap<>();
+        int slots = slots(new RiddlePrison(), seen);
+        DUE.holds(seen.size() + " objects in a new one", seen.size() <= 400);
+        DUE.holds(slots + " fields and elements in a new one", slots <= 7000);
+    }
+
+    private static int slots(Object owner, Map<Object, Boolean> seen) throws Exception {
+        if (owner == null || seen.put(owner, true) != null) {
+            return 0;
+        }
+        int slots = 0;
+        if (owner.getClass().isArray()) {
+            boolean objects = !owner.getClass().getComponentType().isPrimitive();
+            for (int k = 0; k < Array.getLength(owner); k++) {
+                slots += 1 + (objects ? slots(Array.get(owner, k), seen) : 0);
+            }
+            return slots;
+        }
+        for (Field field : owner.getClass().getDeclaredFields()) {
+            if (!Modifier.isStatic(field.getModifiers())) {
+                field.setAccessible(true);
+                slots += 1 + (field.getType().isPrimitive() ? 0 : slots(field.get(owner), seen));
+            }
+        }
+        return slots;
+    }
+
     private static void text() throws Exception {
         String source = Files.readString(Path.of("src/main/java/RiddlePrison.java"), StandardCharsets.UTF_8);
         for (int k = 0; k < source.length(); k++) {
@@ -117,6 +150,16 @@ public final class FaceTest {
             DUE.holds("without " + word, !Pattern.compile(word).matcher(source).find());
         }
         lengths(source.split("\n"));
+        objects(source.split("\n"));
+    }
+
+    /** Rows are made by constructors alone, so that what a run makes does not grow with its calls. */
+    private static void objects(String[] lines) {
+        for (int k = 0; k < lines.length; k++) {
+            boolean makes = Pattern.compile("\\bnew\\b").matcher(lines[k].replaceAll("/?\\*\\*.*|//.*", "")).find();
+            boolean once = lines[k].matches("\\s+private final .* = new .*;|\\s+\\w+\\[k\\] = new \\w+\\(\\);");
+            DUE.holds("line " + (k + 1) + " makes no object in a call", !makes || once);
+        }
     }
 
     /** Methods stand 4 deep, and 8 deep in the classes inside. */

@@ -1,5 +1,7 @@
 /** The document's Terms, part 2: what is foretold. */
 final class ForetoldEdges extends Edges {
+    /** They lead from cell 3 to 1, and back. */
+    private static final String NINE_ELSEWHERE = "31+1,31+1,31+1,31+1,31+1,31+1,31+1,31+1,31+1";
     private static final String CHAIN = "01+1,12+1,23+1,34+1,45+1,56+1,67+1";
 
     ForetoldEdges(Due due, Document document) {
@@ -142,6 +144,9 @@ final class ForetoldEdges extends Edges {
         RiddlePrison oneWay = Due.prison("10+3,12+3;w1+@1");
         is("one of two", oneWay.round(0, 0b110), 1);
         is("not both: he can't come back", oneWay.round(0, 0b101), NONE);
+        RiddlePrison split = Due.prison("01+1,23+1,34+1,45+1;p1+,p1+@2");
+        is("one on that side", split.round(1, 0b100100), 3);
+        is("one on the other side, whatever was asked ahead", split.round(0, 0b100100), NONE);
     }
 
     private void cut() {
@@ -267,7 +272,6 @@ final class ForetoldEdges extends Edges {
     private void hunt() {
         terms("HUNT for a man, a CELL, n STEPS (0 .. 3): he PASSES a DOOR, then somebody shuts one for good (any one), "
             + "and so on by turns, n times:");
-        terms("(The last STEP is done, when he is there.)");
         RiddlePrison x = Due.prison("01+1,12+1,12+1,23+1,23+1,23+1;p1+,p0+");
         int[][] steps = {{0, NONE, NONE, NONE}, {0, 1, NONE, NONE}, {0, 1, 2, NONE}, {0, 1, 2, 3}};
         for (int n = 0; n < 4; n++) {
@@ -283,6 +287,11 @@ final class ForetoldEdges extends Edges {
         noDoors.man(0, 0, 0, 0);
         is("without doors he is there", noDoors.hunt(0, 0, 3), 0);
         is("and nowhere else", noDoors.hunt(0, 1, 3), NONE);
+        terms("(The last STEP is done, when he is there.)");
+        RiddlePrison only = Due.prison("01+1,12+1,12+1;p1+");
+        is("the only door is not shut ahead of his first step", only.hunt(0, 1, 1), 1);
+        is("nor does he go on, once he is there", only.hunt(0, 1, 3), 1);
+        is("what is shut behind the last step is too late", only.hunt(0, 2, 2), 2);
     }
 
     private void huntedLonger() {
@@ -297,6 +306,8 @@ final class ForetoldEdges extends Edges {
         is("one of two is left", two.hunt(0, 2, 3), 2);
         two.set(2, 0, 2);
         is("none of one is left", two.hunt(0, 2, 3), NONE);
+        is("the first of all doors may be shut, too", Due.prison("12+1,01+1;p1+").hunt(0, 2, 3), NONE);
+        is("and the last", Due.prison(NINE_ELSEWHERE + ",12+1;p1+@3").hunt(0, 2, 3), NONE);
         RiddlePrison both = Due.prison("01+1,02+1,13+1,23+1;p1+");
         is("one door behind each is shut", both.hunt(0, 3, 3), NONE);
         RiddlePrison shut = Due.prison("01+1,12+1,12+1,23+1,23+1;p1+");

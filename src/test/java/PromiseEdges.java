@@ -6,6 +6,7 @@ final class PromiseEdges extends Edges {
 
     @Override
     void all() {
+        used();
         newObject();
         door();
         man();
@@ -34,6 +35,27 @@ final class PromiseEdges extends Edges {
         wander();
         image();
         restore();
+        restoredHistory();
+    }
+
+    /** Up to the 512th call all is as promised; later ones may answer what they like, but answer. */
+    private void used() {
+        promise(Document.LIFE, "An object is used for at most 512 calls after it has been made; what later calls answer "
+            + "is free.");
+        RiddlePrison x = new RiddlePrison();
+        x.door(0, 1, 0, 5);
+        x.man(0, 5, 0, 0);
+        for (int k = 3; k < 512; k++) {
+            is("call " + k, x.attempt(0, 0), k % 2);
+        }
+        is("call 512", x.undo(), 7);
+        for (int k = 0; k < 2000; k++) {
+            x.attempt(0, 0);
+            x.image();
+            x.type(48);
+            x.drift(40);
+            x.restore();
+        }
     }
 
     private void newObject() {
@@ -54,29 +76,33 @@ final class PromiseEdges extends Edges {
 
     private void door() {
         promise(2, "A DOOR: its number.");
-        promise(2, "FULL: 10.");
         RiddlePrison x = new RiddlePrison();
         for (int k = 0; k < 10; k++) {
             is("number", x.door(k % 7, 7, k % 4, 10 + k), k);
         }
+        promise(2, "FULL: 10.");
+        x.set(9, 0, 1);
         String ahead = look(x);
         is("the eleventh", x.door(0, 1, 0, 1), FULL);
         is("again", x.door(0, 1, 0, 1), FULL);
         same("all", look(x), ahead);
+        is("what may be undone", x.undo(), 0);
         Due.read(x, "01+1");
         is("not full any more", x.door(0, 1, 0, 1), 1);
     }
 
     private void man() {
         promise(3, "A man: the number.");
-        promise(3, "FULL: 4.");
         RiddlePrison x = new RiddlePrison();
         for (int k = 0; k < 4; k++) {
             is("number", x.man(k, k, k, k), k);
         }
+        promise(3, "FULL: 4.");
+        x.study(3);
         String ahead = look(x);
         is("the fifth", x.man(0, 0, 0, 0), FULL);
         same("all", look(x), ahead);
+        is("what may be undone", x.undo(), 0);
         Due.read(x, "01+1;p0+,p0+,p0+");
         is("not full any more", x.man(0, 0, 0, 0), 3);
         is("full again", x.man(0, 0, 0, 0), FULL);
@@ -144,7 +170,6 @@ final class PromiseEdges extends Edges {
 
     private void type() {
         promise(7, "One letter more behind THE TAPE: how many it has.");
-        promise(7, "FULL: 90.");
         RiddlePrison x = new RiddlePrison();
         for (int k = 1; k <= 90; k++) {
             is("letter", x.type(k == 1 ? 126 : 32), k);
@@ -152,6 +177,7 @@ final class PromiseEdges extends Edges {
                 is("one that is refused is not one more", x.type(127), BAD);
             }
         }
+        promise(7, "FULL: 90.");
         is("one more", x.type(48), FULL);
         is("and again", x.type(48), FULL);
         is("the first letter still stands there", x.read(), -20);
@@ -492,5 +518,27 @@ final class PromiseEdges extends Edges {
         same("all", look(none), ahead);
         x.image();
         is("none of another object", none.restore(), NONE);
+    }
+
+    /** What may be UNDONE of then is all that was, whatever was done and undone since. */
+    private void restoredHistory() {
+        promise(29, "All is as it was then: 1.");
+        for (int done : new int[] {1, 4, 8}) {
+            RiddlePrison x = Due.prison("01+1;p0+");
+            String[] ahead = new String[done];
+            for (int k = 0; k < done; k++) {
+                ahead[k] = look(x);
+                x.study(0);
+            }
+            x.image();
+            x.drift(20);
+            x.restore();
+            is("so many may be undone", x.count(5), done);
+            for (int k = done - 1; k >= 0; k--) {
+                is("so many more", x.undo(), k);
+                same("as ahead of it", look(x), ahead[k]);
+            }
+            is("none", x.undo(), NONE);
+        }
     }
 }

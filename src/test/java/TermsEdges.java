@@ -269,6 +269,12 @@ final class TermsEdges extends Edges {
         is("kind 5", x.man(5, 0, 0, 0), BAD);
         is("wit 10", x.man(0, 10, 0, 0), BAD);
         is("sort 4", x.man(0, 0, 4, 0), BAD);
+        x.whisper(3, 0);
+        Due.read(x, "01+1;p0+");
+        for (int m = 1; m < 4; m++) {
+            is("in place of one who knew", x.man(0, 0, 0, 0), m);
+            is("knows", x.at(m, 4), 0);
+        }
     }
 
     private void failedAtMost() {
@@ -289,6 +295,9 @@ final class TermsEdges extends Edges {
         is("as ahead of that", x.at(0, 5), 98);
         fail(x, 1, 0, 99);
         is("each for himself", x.count(3), 197);
+        Due.read(x, "01+19;p0+");
+        is("in place of one who failed", x.man(0, 0, 0, 0), 1);
+        is("at first", x.at(1, 5), 0);
     }
 
     /** The power of a man of this kind at doors of the four sorts. */

@@ -189,6 +189,11 @@ final class TextEdges extends Edges {
         readIs("01+1  9", -26);
         readIs("01+0 1", -23);
         readIs("01+1 ,12+1", 2);
+        readIs("01+1;" + FOUR_MEN + "  ", 1);
+        readIs("01+1;" + FOUR_MEN + "@7  ", 1);
+        readIs("01+1;" + FOUR_MEN + "@7  x", -44);
+        readIs(TEN_DOORS + "  ", 10);
+        readIs(TEN_DOORS + "  ;  p0+", 10);
         RiddlePrison x = Due.prison("  0  7  +  1  ;  w  3  =  @  5  ");
         same("all", look(x), "1 1 1 0 32 0 0 7 0 1 0 0 2 3 2 5 0 0 0 1");
         is("a tab is no letter of a tape", x.type(9), BAD);
