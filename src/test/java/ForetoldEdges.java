@@ -57,6 +57,10 @@ final class ForetoldEdges extends Edges {
         is("without failing", chaplain.way(0, 2, -1), 2);
         chaplain.set(1, 0, 4);
         is("he would have to fail first", chaplain.way(0, 2, -1), NONE);
+        chaplain.set(0, 0, 19);
+        fail(chaplain, 0, 0, 1);
+        chaplain.set(0, 0, 1);
+        is("as he has now", chaplain.way(0, 2, -1), 2);
     }
 
     private void way() {
@@ -72,6 +76,11 @@ final class ForetoldEdges extends Edges {
         noDoors.man(0, 9, 0, 7);
         is("without doors he is there", noDoors.way(0, 7, -1), 0);
         is("and nowhere else", noDoors.way(0, 0, -1), NONE);
+        RiddlePrison knows = Due.prison("01+19,12+19;p9+");
+        knows.whisper(0, 1);
+        is("one that he knows behind one that he does not", knows.way(0, 2, -1), NONE);
+        knows.whisper(0, 0);
+        is("both that he knows", knows.way(0, 2, -1), 2);
         RiddlePrison warder = Due.prison("10+4,12+4,23+2;w2+@1");
         is("2 more from an odd cell, not from an even one", warder.way(0, 3, -1), 2);
         warder.set(2, 0, 3);
@@ -156,6 +165,8 @@ final class ForetoldEdges extends Edges {
         cutIs(Due.prison(TEN_DOORS + ";p1+"), 7, 0, 0);
         cutIs(Due.prison("01+1,01+1,01+2;p1+"), 1, 2, 0b11);
         cutIs(Due.prison("01+1,02+1,12+1;p1+"), 2, 2, 0b011);
+        // one door, though the two ahead of it make a lesser set
+        cutIs(Due.prison("01+1,01+1,12+1;p1+"), 2, 1, 0b100);
         cutIs(Due.prison("10+3,12+3,20+3;w1+@1"), 2, 1, 0b10);
         RiddlePrison knows = Due.prison("01+19,01+19;p0+");
         knows.whisper(0, 1);
@@ -259,6 +270,7 @@ final class ForetoldEdges extends Edges {
         meetIs(CHAIN + ";p0+@5,p0+@5", 5, 0);
         meetIs("01+1;p0+@7,p0+@7", 7, 0);
         meetIs("71+1,72+1,61+1,62+1;p1+@7,p1+@6", 1, 1);
+        meetIs("56+1,05+1,06+1;p1+@5,p1+@6", 0, 1);
         meetIs("01+1,67+1;p1+,p1+@7", NONE, NONE);
         meetIs("10+3,12+3;w1+@1,w1+@2", 2, 1);
     }
@@ -336,6 +348,12 @@ final class ForetoldEdges extends Edges {
         odds(warder, 0, 0, 1, 1, 2);
         odds(warder, 0, 0, 4, 1, 2);
         odds(warder, 0, 1, 4, 0, 1);
+        // from cell 2 he can't go on: who is there stays, while others still come
+        RiddlePrison trap = Due.prison("12+3,13+3,32+3;w1+@1");
+        odds(trap, 0, 2, 1, 1, 2);
+        odds(trap, 0, 2, 2, 3, 4);
+        odds(trap, 0, 2, 3, 7, 8);
+        odds(trap, 0, 2, 4, 15, 16);
     }
 
     private void odds(RiddlePrison x, int man, int cell, int n, long above, long below) {
