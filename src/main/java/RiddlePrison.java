@@ -551,21 +551,15 @@ public final class RiddlePrison {
         }
 
         int powerAt(Door door) {
+            int learned = door.sort == own ? wit + 3 : wit;
+            int watchful = cell % 2 == 1 ? wit + 2 : wit;
             switch (kind) {
-                case SCHOLAR: return scholarship(door);
-                case WARDER: return watch();
-                case PUNSTER: return door.sort == SUMS ? 0 : scholarship(door);
-                case CHAPLAIN: return watch() + Math.min(failed, MOST_PATIENCE);
+                case SCHOLAR: return learned;
+                case WARDER: return watchful;
+                case PUNSTER: return door.sort == SUMS ? 0 : learned;
+                case CHAPLAIN: return watchful + Math.min(failed, MOST_PATIENCE);
                 default: return wit;
             }
-        }
-
-        private int scholarship(Door door) {
-            return door.sort == own ? wit + 3 : wit;
-        }
-
-        private int watch() {
-            return cell % 2 == 1 ? wit + 2 : wit;
         }
 
         boolean knows(int door) {
@@ -778,6 +772,7 @@ public final class RiddlePrison {
     private static final class Foresight {
         private static final int MODULUS = 1000003;
         private static final int SETS = 1 << CELLS;
+        private static final int STATES = CELLS * SETS;
         // Divisible by every number of doors that a cell can have, so that odds stay whole.
         private static final int SHARES = 2520;
 
@@ -788,8 +783,7 @@ public final class RiddlePrison {
         private final int[] far = new int[CELLS];
         private final int[] rows = new int[CELLS];
         private final int[] farAside = new int[CELLS];
-        private final int[] queue = new int[CELLS * SETS];
-        private final int[] depth = new int[CELLS * SETS];
+        private final int[] depth = new int[STATES];
         private final long[] odds = new long[CELLS];
         private final long[] oddsAhead = new long[CELLS];
 
@@ -817,33 +811,33 @@ public final class RiddlePrison {
             return ((open[cell] & ~shut) >> door & 1) == 1;
         }
 
-        private int beyond(int cell, int door) {
-            return prison.doors[door].beyond(cell);
-        }
-
         /** Finds how far each cell is from one, and by how many rows of doors as short. */
         private void spread(int from, int shut) {
             Arrays.fill(far, NONE);
             Arrays.fill(rows, 0);
             far[from] = 0;
             rows[from] = 1;
-            queue[0] = from;
-            int found = 1;
-            for (int k = 0; k < found && k < CELLS; k++) {
-                int cell = queue[k];
-                for (int d = 0; d < prison.doorCount; d++) {
-                    if (!isOpen(cell, d, shut)) {
-                        continue;
+            for (int steps = 0; steps < CELLS; steps++) {
+                for (int cell = 0; cell < CELLS; cell++) {
+                    if (far[cell] == steps) {
+                        spreadOn(cell, shut);
                     }
-                    int next = beyond(cell, d);
-                    if (far[next] < 0) {
-                        far[next] = far[cell] + 1;
-                        queue[found] = next;
-                        found++;
-                    }
-                    if (far[next] == far[cell] + 1) {
-                        rows[next] = (rows[next] + rows[cell]) % MODULUS;
-                    }
+                }
+            }
+        }
+
+        private void spreadOn(int cell, int shut) {
+            int then = far[cell] + 1;
+            for (int d = 0; d < prison.doorCount; d++) {
+                if (!isOpen(cell, d, shut)) {
+                    continue;
+                }
+                int next = prison.doors[d].beyond(cell);
+                if (far[next] < 0) {
+                    far[next] = then;
+                }
+                if (far[next] == then) {
+                    rows[next] = (rows[next] + rows[cell]) % MODULUS;
                 }
             }
         }
@@ -871,14 +865,14 @@ public final class RiddlePrison {
                 if (door < 0 || done == k) {
                     return door;
                 }
-                here = beyond(here, door);
+                here = prison.doors[door].beyond(here);
             }
             return NONE;
         }
 
         private int firstDoorOfWay(int here, int cell, int left) {
             for (int d = 0; d < prison.doorCount; d++) {
-                if (isOpen(here, d, 0) && distance(beyond(here, d), cell, 0) == left - 1) {
+                if (isOpen(here, d, 0) && distance(prison.doors[d].beyond(here), cell, 0) == left - 1) {
                     return d;
                 }
             }
@@ -888,31 +882,39 @@ public final class RiddlePrison {
         /** Searches by where he is and which of the told cells he has been in. */
         int shortestRound(int cells) {
             Arrays.fill(depth, NONE);
-            int first = start * SETS + (1 << start & cells);
-            depth[first] = 0;
-            queue[0] = first;
-            int found = 1;
-            for (int k = 0; k < found && k < CELLS * SETS; k++) {
-                int state = queue[k];
-                int cell = state / SETS;
-                int been = state % SETS;
-                if (been == cells) {
-                    return depth[state];
-                }
-                for (int d = 0; d < prison.doorCount; d++) {
-                    if (!isOpen(cell, d, 0)) {
+            depth[stateOf(start, 0, cells)] = 0;
+            boolean goesOn = true;
+            for (int steps = 0; steps < STATES && goesOn; steps++) {
+                goesOn = false;
+                for (int state = 0; state < STATES; state++) {
+                    if (depth[state] != steps) {
                         continue;
                     }
-                    int next = beyond(cell, d);
-                    int then = next * SETS + (been | 1 << next & cells);
-                    if (depth[then] < 0) {
-                        depth[then] = depth[state] + 1;
-                        queue[found] = then;
-                        found++;
+                    if (state % SETS == cells) {
+                        return steps;
                     }
+                    stepOn(state, cells);
+                    goesOn = true;
                 }
             }
             return NONE;
+        }
+
+        private static int stateOf(int cell, int been, int cells) {
+            return cell * SETS + (been | 1 << cell & cells);
+        }
+
+        private void stepOn(int state, int cells) {
+            int cell = state / SETS;
+            for (int d = 0; d < prison.doorCount; d++) {
+                if (!isOpen(cell, d, 0)) {
+                    continue;
+                }
+                int then = stateOf(prison.doors[d].beyond(cell), state % SETS, cells);
+                if (depth[then] < 0) {
+                    depth[then] = depth[state] + 1;
+                }
+            }
         }
 
         int leastCut(int cell) {
@@ -981,7 +983,7 @@ public final class RiddlePrison {
                 return false;
             }
             for (int d = 0; d < prison.doorCount; d++) {
-                if (isOpen(here, d, shut) && getsThereStill(beyond(here, d), cell, shut, steps - 1)) {
+                if (isOpen(here, d, shut) && getsThereStill(prison.doors[d].beyond(here), cell, shut, steps - 1)) {
                     return true;
                 }
             }
@@ -1029,7 +1031,7 @@ public final class RiddlePrison {
             long share = odds[cell] * (SHARES / choices);
             for (int d = 0; d < prison.doorCount; d++) {
                 if (isOpen(cell, d, 0)) {
-                    oddsAhead[beyond(cell, d)] += share;
+                    oddsAhead[prison.doors[d].beyond(cell)] += share;
                 }
             }
         }

@@ -115,7 +115,7 @@ public final class FaceTest {
         Map<Object, Boolean> seen = new IdentityHashMap<>();
         int slots = slots(new RiddlePrison(), seen);
         DUE.holds(seen.size() + " objects in a new one", seen.size() <= 400);
-        DUE.holds(slots + " fields and elements in a new one", slots <= 7000);
+        DUE.holds(slots + " fields and elements in a new one", slots <= 4500);
     }
 
     private static int slots(Object owner, Map<Object, Boolean> seen) throws Exception {
