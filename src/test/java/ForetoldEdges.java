@@ -156,6 +156,16 @@ final class ForetoldEdges extends Edges {
         RiddlePrison split = Due.prison("01+1,23+1,34+1,45+1;p1+,p1+@2");
         is("one on that side", split.round(1, 0b100100), 3);
         is("one on the other side, whatever was asked ahead", split.round(0, 0b100100), NONE);
+        RiddlePrison triangle = Due.prison("01+1,12+1,02+1;p1+,p1+@1,p1+@2");
+        is("straight, though a cell ahead of it leads there too", triangle.round(0, 0b100), 1);
+        is("straight from 1", triangle.round(1, 0b100), 1);
+        is("straight from 2", triangle.round(2, 0b010), 1);
+        is("both others", triangle.round(0, 0b110), 2);
+        RiddlePrison ring = Due.prison("01+1,12+1,23+1,34+1,45+1,56+1,67+1,70+1;p1+");
+        is("a ring of eight", ring.round(0, 255), 7);
+        is("the opposite cell", ring.round(0, 0b00010000), 4);
+        is("both next ones", ring.round(0, 0b10000010), 3);
+        is("turning back is shorter than all round", ring.round(0, 0b10000110), 4);
     }
 
     private void cut() {
